@@ -1,0 +1,81 @@
+import java.io.IOException;
+import java.nio.file.Files;
+import java.nio.file.Path;
+import java.util.List;
+import java.util.regex.Matcher;
+import java.util.regex.Pattern;
+
+/** What of ../shared/LANGUAGE.md can be seen in the text of the class. */
+public final class SourceTest {
+    private static final Path SOURCE = Path.of("src/main/java/LogWeave.java");
+    private static final int LONGEST_METHOD = 60;
+    private static final int MOST_PARAMETERS = 7;
+    private static final int MOST_CLASSES = 12;
+
+    private SourceTest() {
+    }
+
+    public static void main(String[] args) throws IOException {
+        String text = Files.readString(SOURCE);
+        String code = text.replaceAll("(?s)/\\*.*?\\*/", "").replaceAll("//[^\n]*", "").replaceAll("\"[^\"\n]*\"", "T");
+        for (char sign : text.toCharArray()) {
+            if (sign > 126 || sign < 32 && sign != '\n') {
+                Check.same("a sign", (int) sign, 32);
+            }
+        }
+        forbiddenWords(code);
+        imports(code);
+        thrownExceptions(code);
+        sizes(code);
+        Check.end();
+    }
+
+    private static int found(String code, String pattern) {
+        Matcher matcher = Pattern.compile(pattern).matcher(code);
+        int count = 0;
+        while (matcher.find()) {
+            count++;
+        }
+        return count;
+    }
+
+    private static void forbiddenWords(String code) {
+        List<String> forbidden = List.of("->", "::", "\\btry\\b", "\\bcatch\\b", "\\bfinally\\b", "\\bsynchronized\\b",
+                "\\bassert\\b", "\\bpackage\\b", "\\bprotected\\b", "\\bvolatile\\b", "\\bnative\\b", "\\bvar\\b",
+                "\\bSystem\\.(?!arraycopy)", "\\bRandom\\b", "\\bThread\\b", "\\bMath\\.", "Exact\\b", "\\bequals\\b",
+                "\\bhashCode\\b", "\\btoString\\b", "@", "\\bstatic\\s*\\{", "\\bT\\s*\\+", "\\+\\s*T\\b");
+        for (String pattern : forbidden) {
+            Check.same(pattern, found(code, pattern), 0);
+        }
+    }
+
+    private static void imports(String code) {
+        Check.same("imports", found(code, "\\bimport\\b"), 2);
+        Check.same("of ArrayList", found(code, "import java\\.util\\.ArrayList;"), 1);
+        Check.same("of the exception", found(code, "import java\\.util\\.NoSuchElementException;"), 1);
+    }
+
+    private static void thrownExceptions(String code) {
+        String kinds = "IllegalStateException|IllegalArgumentException|IndexOutOfBoundsException|ArithmeticException"
+                + "|UnsupportedOperationException|NoSuchElementException";
+        Check.same("throws of the kinds", found(code, "\\bthrow new (" + kinds + ")\\(T\\);"), found(code, "\\bthrow\\b"));
+    }
+
+    private static void sizes(String code) {
+        Check.same("few classes", found(code, "\\bclass\\b") <= MOST_CLASSES, true);
+        Matcher heads = Pattern.compile("\n( +)[\\w<>\\[\\] ]+\\(([^)]*)\\)[^;{}]*\\{").matcher(code);
+        int methods = 0;
+        while (heads.find()) {
+            String head = heads.group().strip();
+            if (head.matches("(?s)(if|for|while|} else).*")) {
+                continue;
+            }
+            methods++;
+            int end = code.indexOf("\n" + heads.group(1) + "}", heads.end() - 1);
+            int lines = end < 0 ? 0 : code.substring(heads.start() + 1, end).split("\n").length + 1;
+            Check.same(head + " is short", lines <= LONGEST_METHOD, true);
+            Check.same(head + " takes few", heads.group(2).split(",").length <= MOST_PARAMETERS, true);
+        }
+        Check.same("methods were seen", methods > 33, true);
+    }
+}
