@@ -202,7 +202,9 @@ public final class LogWeave {
         int number = alertList.size();
         Alert alert = new Alert(number, new Filter(source, rank, place, word), goal, window, hold);
         alertList.add(alert);
-        alert.count = countFromAllLines(alert);
+        for (int i = 0; i < lineList.size(); i++) {
+            countIfDue(alert, lineList.get(i));
+        }
         lookAtAlert(alert);
         return number;
     }
@@ -259,7 +261,7 @@ public final class LogWeave {
     }
 
     public boolean isGuarded(int line) throws NoSuchElementException {
-        return needsGuard(lineNumbered(line));
+        return lineNumbered(line).guards > 0;
     }
 
     // Ticks and figures
@@ -463,10 +465,15 @@ public final class LogWeave {
     private void showToAlerts(Line line) {
         for (int i = 0; i < alertList.size(); i++) {
             Alert alert = alertList.get(i);
-            if (alert.counts(line, now)) {
-                alert.count++;
-            }
+            countIfDue(alert, line);
             lookAtAlert(alert);
+        }
+    }
+
+    private void countIfDue(Alert alert, Line line) {
+        if (alert.counts(line, now)) {
+            alert.count++;
+            line.guards++;
         }
     }
 
@@ -495,7 +502,7 @@ public final class LogWeave {
             }
             if (alert.counts(line, now) && !firing.hasLine(i)) {
                 firing.putLine(i);
-                line.firingsOn++;
+                line.guards++;
             }
         }
     }
@@ -503,23 +510,10 @@ public final class LogWeave {
     private void giveUpLines(Firing firing) {
         for (int i = 0; i < lineList.size(); i++) {
             if (firing.hasLine(i)) {
-                lineList.get(i).firingsOn--;
+                lineList.get(i).guards--;
             }
         }
         firing.clearLines();
-    }
-
-    private boolean needsGuard(Line line) {
-        return line.state != DROPPED && (line.firingsOn > 0 || isCounted(line));
-    }
-
-    private boolean isCounted(Line line) {
-        for (int i = 0; i < alertList.size(); i++) {
-            if (alertList.get(i).counts(line, now)) {
-                return true;
-            }
-        }
-        return false;
     }
 
     // How budgets are kept
@@ -565,8 +559,8 @@ public final class LogWeave {
         Line found = null;
         for (int i = 0; i < lineList.size(); i++) {
             Line line = lineList.get(i);
-            if (line.source == source && line.state == KEPT && (found == null || line.rank < found.rank)
-                    && !needsGuard(line)) {
+            if (line.source == source && line.state == KEPT && line.guards == 0
+                    && (found == null || line.rank < found.rank)) {
                 found = line;
             }
         }
@@ -598,6 +592,7 @@ public final class LogWeave {
             }
             if (line.came == leaving && line.state != DROPPED && alert.filter.takes(line)) {
                 alert.count--;
+                line.guards--;
             }
         }
     }
@@ -736,8 +731,8 @@ public final class LogWeave {
         private final int came;
         private Pattern pattern;
         private char state = KEPT;
-        /** How many firings that were not released stand on it: kept, as asking them all for each drop is dear. */
-        private int firingsOn;
+        /** How many alerts count it and how many firings stand on it: kept, as asking them all is dear. */
+        private int guards;
 
         private Line(int source, int rank, Words words, int bytes, int came, Pattern pattern) {
             this.source = source;

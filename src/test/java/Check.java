@@ -20,11 +20,21 @@ final class Check {
         }
     }
 
-    /** The call throws just this exception, and changes nothing in the store. */
+    /** The call throws just this exception, by a statement of the class itself, and changes nothing in the store. */
     static void fails(LogWeave store, String what, Class<? extends RuntimeException> due, Call call) {
         String before = Picture.of(store);
         same(what, answerOf(call), due.getSimpleName());
+        same(what + " is thrown by", throwerOf(call), LogWeave.class.getName());
         same(what + " changes nothing", Picture.of(store), before);
+    }
+
+    private static String throwerOf(Call call) {
+        try {
+            call.run();
+        } catch (RuntimeException e) {
+            return e.getStackTrace().length == 0 ? "the machine" : e.getStackTrace()[0].getClassName();
+        }
+        return "nothing";
     }
 
     /** The answer of a call, or the simple name of what it throws. */

@@ -1,7 +1,9 @@
 import java.io.IOException;
 import java.nio.file.Files;
 import java.nio.file.Path;
+import java.util.HashMap;
 import java.util.List;
+import java.util.Map;
 import java.util.regex.Matcher;
 import java.util.regex.Pattern;
 
@@ -11,6 +13,9 @@ public final class SourceTest {
     private static final int LONGEST_METHOD = 60;
     private static final int MOST_PARAMETERS = 7;
     private static final int MOST_CLASSES = 12;
+    private static final int DEEPEST_CALLS = 8;
+
+    private static final Map<String, String> BODIES = new HashMap<>();
 
     private SourceTest() {
     }
@@ -27,6 +32,9 @@ public final class SourceTest {
         imports(code);
         thrownExceptions(code);
         sizes(code);
+        for (String method : BODIES.keySet()) {
+            Check.same(method + " does not go too deep", depth(method, 1) <= DEEPEST_CALLS, true);
+        }
         Check.end();
     }
 
@@ -75,7 +83,20 @@ public final class SourceTest {
             int lines = end < 0 ? 0 : code.substring(heads.start() + 1, end).split("\n").length + 1;
             Check.same(head + " is short", lines <= LONGEST_METHOD, true);
             Check.same(head + " takes few", heads.group(2).split(",").length <= MOST_PARAMETERS, true);
+            String name = head.substring(0, head.indexOf('(')).replaceAll(".* ", "");
+            String body = end < 0 ? "" : code.substring(heads.end(), end);
+            Check.same(head + " has a name of its own", BODIES.put(name, body), null);
         }
         Check.same("methods were seen", methods > 33, true);
+    }
+
+    private static int depth(String method, int above) {
+        int deepest = above;
+        for (String called : BODIES.keySet()) {
+            if (above <= DEEPEST_CALLS && found(BODIES.get(method), "\\b" + called + "\\(") > 0) {
+                deepest = Math.max(deepest, depth(called, above + 1));
+            }
+        }
+        return deepest;
     }
 }
