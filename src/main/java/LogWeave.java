@@ -809,7 +809,7 @@ public final class LogWeave {
         private final int began;
         private boolean released;
         private int size;
-        /** A bit for each line: there may be 1206 firings, too many for an element a line. */
+        /** A bit for each line: there may be 1200 firings, too many for an element a line. */
         private final long[] onLines = new long[(MOST_LINES + BITS_IN_A_LONG - 1) / BITS_IN_A_LONG];
 
         private Firing(Alert alert, int began) {

@@ -4,19 +4,64 @@ import java.util.Objects;
 final class Check {
     private static int wrong;
     private static int done;
+    private static String about = "";
 
     interface Call {
         Object run();
     }
 
+    /** A call of a store with one number. */
+    interface Asked {
+        Object of(LogWeave store, int number);
+    }
+
+    /** A call of a store with several numbers. */
+    interface AskedWithMany {
+        Object of(LogWeave store, int[] numbers);
+    }
+
     private Check() {
+    }
+
+    /** What the answers that follow are about, told with those that are wrong. */
+    static void about(String words) {
+        about = words + ": ";
+    }
+
+    static int done() {
+        return done;
     }
 
     static void same(String what, Object got, Object due) {
         done++;
         if (!Objects.equals(got, due)) {
             wrong++;
-            System.out.println(what + " answered " + got + ", due is " + due);
+            System.out.println(about + what + " answered " + got + ", due is " + due);
+        }
+    }
+
+    /** Numbers just beyond a range, the least and the greatest int, and such as a narrow type would wrap into it. */
+    static int[] beyond(int least, int greatest) {
+        return new int[] {least - 1, greatest + 1, Integer.MIN_VALUE, Integer.MAX_VALUE, least - 256, greatest + 256,
+                greatest + 65536, Integer.MIN_VALUE + greatest};
+    }
+
+    /** The call fails so for each number. */
+    static void refuses(LogWeave store, Class<? extends RuntimeException> due, Asked asked, int... numbers) {
+        for (int number : numbers) {
+            fails(store, "with " + number, due, () -> asked.of(store, number));
+        }
+    }
+
+    /** The call fails so with each of its numbers beyond its range, the others as they are given. */
+    static void refusesEach(LogWeave store, Class<? extends RuntimeException> due, AskedWithMany asked, int[] least,
+            int[] greatest, int[] others) {
+        for (int i = 0; i < least.length; i++) {
+            for (int wrong : beyond(least[i], greatest[i])) {
+                int[] numbers = others.clone();
+                numbers[i] = wrong;
+                fails(store, "the number " + i + " is " + wrong, due, () -> asked.of(store, numbers));
+            }
         }
     }
 

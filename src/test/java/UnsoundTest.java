@@ -13,6 +13,14 @@ public final class UnsoundTest {
         Check.same("as it is kept", counted.counted(1), 5);
         Check.same("found anew", counted.countedAnew(1), 2);
 
+        for (int alert = 0; alert < 2; alert++) {
+            for (int wrong : new int[] {-1, 1}) {
+                LogWeave byOne = store();
+                put(element(byOne, "alertList", alert), "count", byOne.counted(alert) + wrong);
+                Check.same("a count of " + alert + " that is wrong by " + wrong, byOne.isSound(), false);
+            }
+        }
+
         LogWeave dropped = store();
         put(element(dropped, "lineList", 0), "state", 'd');
         Check.same("a firing stands on a dropped line", dropped.isSound(), false);
