@@ -36,8 +36,19 @@ final class Check {
         done++;
         if (!Objects.equals(got, due)) {
             wrong++;
-            System.out.println(about + what + " answered " + got + ", due is " + due);
+            System.out.println(about + what + difference(String.valueOf(got), String.valueOf(due)));
         }
+    }
+
+    /** Of long texts, such as the pictures of two stores, only the first line in which they are not the same. */
+    private static String difference(String got, String due) {
+        String[] gotLines = got.split("\n");
+        String[] dueLines = due.split("\n");
+        int line = 0;
+        while (line < gotLines.length - 1 && line < dueLines.length - 1 && gotLines[line].equals(dueLines[line])) {
+            line++;
+        }
+        return " answered " + gotLines[line] + ", due is " + dueLines[line];
     }
 
     /** Numbers just beyond a range, the least and the greatest int, and such as a narrow type would wrap into it. */

@@ -6,7 +6,7 @@ import java.util.List;
 import java.util.regex.Matcher;
 import java.util.regex.Pattern;
 
-/** The sentences of ../shared/DOC.md: those of "Terms" by their paragraphs, and the rows of each promise. */
+/** The sentences of ../shared/DOC.md: "What it is", those of "Terms" by their paragraphs, the rows of each promise. */
 final class Document {
     private static final Path PATH = Path.of("../shared/DOC.md");
     private static final Pattern LABEL = Pattern.compile("^([A-Z][a-z ]+)\\. ");
@@ -29,7 +29,8 @@ final class Document {
                 addTerms(rows, section);
             } else if (section.contains("\n")) {
                 int heading = section.indexOf('\n');
-                addSentences(rows, section.substring(0, heading), section.substring(heading).replace('\n', ' '), false);
+                String name = section.substring(0, heading);
+                addSentences(rows, name, section.substring(heading).replace('\n', ' '), name.equals("What it is"));
             }
         }
         return rows;
@@ -65,7 +66,7 @@ final class Document {
             } else if (words.startsWith("Returns ") || words.startsWith("Throws ")) {
                 rows.add(new Row(place, words, true));
             } else if (words.startsWith("`") && words.contains("`: ")) {
-                rows.add(new Row(place, words.substring(words.indexOf("`: ") + 3), false));
+                rows.add(new Row(place, words.substring(words.indexOf("`: ") + 3), true));
             }
         }
     }

@@ -2,15 +2,16 @@ import java.io.IOException;
 import java.util.HashSet;
 import java.util.Set;
 
-/** Each sentence of the document that may name a boundary has a test of its own, and each such test its sentence. */
+/** Each sentence of "What it is", "Terms" and the promises has a test of its own, and each such test its sentence. */
 public final class DocumentTest {
     private DocumentTest() {
     }
 
     public static void main(String[] args) throws IOException {
         Set<String> tested = new HashSet<>();
-        for (Sentences sentences : new Sentences[] {LineSentencesTest.all(), BudgetSentencesTest.all(),
-                AlertSentencesTest.all(), FiringSentencesTest.all(), TickSentencesTest.all()}) {
+        for (Sentences sentences : new Sentences[] {FirstSentencesTest.all(), LineSentencesTest.all(),
+                BudgetSentencesTest.all(), AlertSentencesTest.all(), FiringSentencesTest.all(),
+                TickSentencesTest.all()}) {
             for (Sentences.Sentence sentence : sentences.list()) {
                 tested.add(sentence.place() + ": " + sentence.words());
             }
@@ -28,7 +29,7 @@ public final class DocumentTest {
         for (String sentence : tested) {
             Check.same("[" + sentence + "] is a sentence of the document", written.contains(sentence), true);
         }
-        Check.same("the sentences that are due", due, 140);
+        Check.same("the sentences that are due", due, 175);
         Check.end();
     }
 }

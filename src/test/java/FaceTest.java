@@ -50,12 +50,13 @@ public final class FaceTest {
         Set<String> face = new TreeSet<>();
         for (Method method : LogWeave.class.getDeclaredMethods()) {
             if (!isPrivate(method)) {
-                Check.same(method + " is public", Modifier.isPublic(method.getModifiers()), true);
+                Check.same(method + " is public and no more", method.getModifiers(), Modifier.PUBLIC);
                 face.add(method.getReturnType().getName() + " " + method.getName()
                         + listed(method.getParameterTypes(), method.getExceptionTypes()));
             }
         }
         for (Constructor<?> made : LogWeave.class.getDeclaredConstructors()) {
+            Check.same(made + " is public", made.getModifiers(), Modifier.PUBLIC);
             face.add("LogWeave" + listed(made.getParameterTypes(), made.getExceptionTypes()));
         }
         return face;

@@ -13,6 +13,7 @@ public final class SourceTest {
     private static final int LONGEST_METHOD = 60;
     private static final int MOST_PARAMETERS = 7;
     private static final int MOST_CLASSES = 12;
+    private static final int MOST_FIELDS = 20;
     private static final int DEEPEST_CALLS = 8;
 
     private static final Map<String, String> BODIES = new HashMap<>();
@@ -31,6 +32,10 @@ public final class SourceTest {
         forbiddenWords(code);
         imports(code);
         thrownExceptions(code);
+        loops(code);
+        divisors(code);
+        library(code);
+        fields(code);
         sizes(code);
         for (String method : BODIES.keySet()) {
             Check.same(method + " does not go too deep", depth(method, 1) <= DEEPEST_CALLS, true);
@@ -66,7 +71,43 @@ public final class SourceTest {
     private static void thrownExceptions(String code) {
         String kinds = "IllegalStateException|IllegalArgumentException|IndexOutOfBoundsException|ArithmeticException"
                 + "|UnsupportedOperationException|NoSuchElementException";
-        Check.same("throws of the kinds", found(code, "\\bthrow new (" + kinds + ")\\(T\\);"), found(code, "\\bthrow\\b"));
+        Check.same("throws of the kinds", found(code, "\\bthrow new (" + kinds + ")\\(T\\);"),
+                found(code, "\\bthrow\\b"));
+    }
+
+    /** Each loop counts a number up to a bound, or down to 0; the one that does not so by its head has both in it. */
+    private static void loops(String code) {
+        String counted = "for \\(int (\\w+) = [^;]+; \\1 (< [^;]+; \\1\\+\\+|>= 0; \\1--)\\) \\{";
+        String bounded = "while \\(tooMany > 0 && count < MOST_LINES\\) \\{";
+        Check.same("loops that count", found(code, counted), found(code, "\\bfor\\b"));
+        Check.same("loops that have a bound", found(code, bounded), found(code, "\\b(while|do)\\b"));
+        Check.same("loops were seen", found(code, counted) > 20, true);
+    }
+
+    /** No divisor is 0: each is a constant, or was looked at before. */
+    private static void divisors(String code) {
+        Check.same("divisors", found(code, "[/%]"), found(code,
+                "/ ARCHIVED_LINES_FOR_A_TICK\\b|[/%] BITS_IN_A_LONG\\b|/ \\(float\\) all;|/ \\(double\\) count;"));
+        Check.same("the number of all lines", found(code, "if \\(all == 0\\) \\{\\s+throw\\b"), 1);
+        Check.same("the number of kept lines", found(code, "if \\(count == 0\\) \\{\\s+throw\\b"), 1);
+    }
+
+    /** Of the library nothing but lists, by their numbers, and the bits of a long. */
+    private static void library(String code) {
+        Check.same("calls of lists", found(code, "List\\.(?!(add|get|size)\\()"), 0);
+        Check.same("names of lists", found(code, "\\bArrayList\\b"), 1 + 2 * found(code, "new ArrayList<>\\(\\);"));
+        Check.same("others", found(code, "\\b(Integer|String|StringBuilder|Arrays|Iterator|List|Object)\\b"), 0);
+        Check.same("of Long", found(code, "\\bLong\\b"), found(code, "\\bLong\\.bitCount\\("));
+        Check.same("casts", found(code, "\\((int|char|[A-Z]\\w*)\\) "), 0);
+    }
+
+    private static void fields(String code) {
+        Check.same("fixed for all objects", found(code, "\\bstatic\\b(?! final class\\b)(?![^;=]*\\()"),
+                found(code, "private static final (int|char) [A-Z_]+ = (-?\\d+|'\\w');"));
+        for (String inside : code.split("\\bclass\\b")) {
+            int own = found(inside, "\n +private (?!static\\b)(final )?[\\w<>\\[\\]]+ \\w+( = [^;]+)?;");
+            Check.same("few fields in" + inside.lines().findFirst().orElse(""), own <= MOST_FIELDS, true);
+        }
     }
 
     private static void sizes(String code) {
